@@ -581,6 +581,9 @@ public final class PromiseTest {
         x.silence(1);
         due("no costs across a chord without voices", x.count(4), 0);
         due("no faults behind a chord without voices", x.of(2, 6) & 480, 0);
+        x.voice(0, 55, 60, 67);
+        due("a fault of the chord 0", x.count(2), 1 + 4);
+        due("it counts", x.count(3), 1 + Integer.bitCount(x.of(2, 6)));
         x.silence(0);
         due("a soprano of 0", x.count(8), 0);
     }
@@ -666,6 +669,11 @@ public final class PromiseTest {
         x.voice(2, 99, 99, 99);
         due("its own voices do not matter", x.nearest(1, 3), 3);
         due("nothing changes", x.of(1, 2), 0);
+
+        FiguredBasses y = triads(48, 48);
+        y.voice(0, 55, 60, 67);
+        due("of 52,60,67 and 55,60,64 the first one", y.nearest(1, 0), 52);
+        due("that cost as much", y.nearest(1, 3), 3);
     }
 
     private static void promise16IfVoiced() {

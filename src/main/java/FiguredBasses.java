@@ -438,7 +438,8 @@ public final class FiguredBasses {
 
         /** The bass of a chord and the upper voices given, in one number. */
         int allVoices(int chord, int upperVoices) {
-            return bassOf(chord) << NOTE_BITS * SOPRANO | upperVoices;
+            int bass = has(chord) ? basses[chord] : 0;
+            return bass << NOTE_BITS * SOPRANO | upperVoices;
         }
 
         int allVoicesNow(int chord) {
