@@ -22,6 +22,10 @@ final class Check {
         due(what, truth ? 1 : 0, 1);
     }
 
+    int asked() {
+        return asked;
+    }
+
     boolean allRight() {
         return wrong == 0;
     }

@@ -2,7 +2,9 @@ import java.util.Random;
 
 /** Random runs of calls, the same ones each time, with the answers of the slow model as those that are due. */
 public final class ModelTest {
-    private static final int RUNS = 1200, CALLS = 512;
+    private static final int RUNS = 4000;
+    // An object is used for 512 calls; those of a step and of a look at everything are fewer than these.
+    private static final int CALLS = 512, CALLS_OF_STEP = 8, CALLS_OF_EVERYTHING = 125;
     private static final int[] BASSES_OF_C = {36, 38, 40, 41, 43, 45, 47, 48, 50, 52, 53, 55, 57, 59};
     private static final int[] FIGURES = {5, 6, 64, 7};
     private static final int[] FIGURES_MOSTLY_5 = {5, 5, 5, 5, 6, 6, 64, 7};
@@ -15,6 +17,7 @@ public final class ModelTest {
     private final FiguredBasses x = new FiguredBasses();
     private final Model model = new Model();
     private final int kind;
+    private final int askedBefore;
     private int longestText;
     private int realised;
     private int parallels;
@@ -24,6 +27,7 @@ public final class ModelTest {
         this.check = check;
         random = new Random(seed);
         kind = (int) (seed % 4);
+        askedBefore = check.asked();
     }
 
     public static void main(String[] args) {
@@ -34,8 +38,9 @@ public final class ModelTest {
         int longest = 0;
         for (int seed = 1; seed <= RUNS && check.allRight(); seed++) {
             ModelTest run = new ModelTest(check, seed);
-            for (int call = 0; call < CALLS && check.allRight(); call++) {
-                run.call("seed " + seed + ", call " + call + ": ");
+            run.begin("seed " + seed + ", ");
+            for (int step = 0; run.callsLeft() >= CALLS_OF_STEP && check.allRight(); step++) {
+                run.call("seed " + seed + ", step " + step + ": ");
             }
             realised += run.realised;
             parallels += run.parallels;
@@ -43,8 +48,30 @@ public final class ModelTest {
             longest = Math.max(longest, run.longestText);
         }
         System.out.println("realised " + realised + ", parallels " + parallels + ", nearest ones " + nearests + ", longest text " + longest);
-        check.holds("the runs reach what they are for", realised > 3000 && parallels > 5000 && nearests > 1500 && longest == 80);
+        check.holds("the runs reach what they are for", realised > 3000 && parallels > 1500 && nearests > 1500 && longest == 80);
         check.end();
+    }
+
+    /** Each answer that is compared is of one call. */
+    private int callsLeft() {
+        return CALLS - (check.asked() - askedBefore);
+    }
+
+    /** Some chords, half of them with upper voices, so that runs need not be long to have many. */
+    private void begin(String where) {
+        int chords = below(11);
+        for (int chord = 0; chord < chords; chord++) {
+            addChord(where, chord);
+            if (below(2) == 0) {
+                voiceOne(where);
+            }
+        }
+    }
+
+    private void addChord(String where, int at) {
+        int bass = bass();
+        int figure = figure();
+        check.due(where + "chord(" + at + ", " + bass + ", " + figure + ")", x.chord(at, bass, figure), model.chord(at, bass, figure));
     }
 
     private int below(int bound) {
@@ -92,10 +119,7 @@ public final class ModelTest {
             int value = kind == 3 || setting != 0 ? likely(0, 24) : 0;
             check.due(where + "set(" + setting + ", " + value + ")", x.set(setting, value), model.set(setting, value));
         } else if (pick < 15) {
-            int at = likely(0, model.count(0));
-            int bass = bass();
-            int figure = figure();
-            check.due(where + "chord(" + at + ", " + bass + ", " + figure + ")", x.chord(at, bass, figure), model.chord(at, bass, figure));
+            addChord(where, likely(0, model.count(0)));
         } else if (pick < 18) {
             int chord = chordNumber();
             check.due(where + "takeOut(" + chord + ")", x.takeOut(chord), model.takeOut(chord));
@@ -249,6 +273,9 @@ public final class ModelTest {
     }
 
     private void everything(String where) {
+        if (callsLeft() < CALLS_OF_EVERYTHING + CALLS_OF_STEP || below(3) > 0) {
+            return;
+        }
         for (int what = 0; what <= 10; what++) {
             check.due(where + "then count(" + what + ")", x.count(what), model.count(what));
         }

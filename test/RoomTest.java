@@ -2,7 +2,7 @@ import java.lang.management.ManagementFactory;
 
 /** All calls of a run live in one room: the calls make no objects, and an object is small. */
 public final class RoomTest {
-    private static final int OBJECTS = 200, CALLS = 512;
+    private static final int OBJECTS = 200, CALLS = 500;
     private static final long BYTES_OF_OBJECT = 16000, BYTES_OF_ALL_CALLS = 1 << 20;
 
     public static void main(String[] args) {
