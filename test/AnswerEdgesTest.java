@@ -248,6 +248,23 @@ public final class AnswerEdgesTest {
             voicing(0, 4, 1) 64
             voicing(0, 5, 0) 55
             """);
+        // 48, 55, 64 is a voicing over 36 alone: the tenor is above the bass.
+        edges.edge(11, "the tenor at its lowest and at the bass", """
+            text 36;48
+            read()
+            of(0, 8) 15
+            voicing(0, 0, 0) 48
+            voicing(0, 0, 1) 55
+            voicing(0, 0, 2) 64
+            of(1, 8) 14
+            voicing(1, 0, 0) 52
+            """);
+        firstAndLast(0, 43, 5, 10, "50, 55, 59", "67, 71, 74");
+        firstAndLast(10, 46, 5, 16, "50, 53, 58", "65, 74, 77");
+        firstAndLast(0, 41, 5, 11, "48, 57, 60", "65, 69, 72");
+        firstAndLast(8, 44, 5, 13, "48, 56, 63", "63, 72, 75");
+        firstAndLast(2, 47, 6, 11, "50, 55, 59", "67, 74, 79");
+        firstAndLast(3, 39, 5, 13, "51, 55, 58", "67, 70, 79");
         edges.edge(11, "the most that a chord has", """
             chord(0, 40, 6)
             set(1, 24)
@@ -274,6 +291,23 @@ public final class AnswerEdgesTest {
             voicing(1, 0, 0) 52
             voicing(1, 13, 2) 76
             """);
+    }
+
+    /** Voicings up to the ends of the ranges, of chords that have tones at the ends or a halftone beyond. */
+    private static void firstAndLast(int key, int bass, int figure, int many, String first, String last) {
+        String[] low = first.split(", ");
+        String[] high = last.split(", ");
+        StringBuilder rows = new StringBuilder("""
+            set(0, %d)
+            chord(0, %d, %d)
+            of(0, 8) %d
+            """.formatted(key, bass, figure, many));
+        for (int voice = 0; voice < 3; voice++) {
+            rows.append("voicing(0, 0, %d) %s\n".formatted(voice, low[voice]));
+            rows.append("voicing(0, %d, %d) %s\n".formatted(many - 1, voice, high[voice]));
+            rows.append("voicing(0, %d, %d) NO_SUCH\n".formatted(many, voice));
+        }
+        edges.edge(11, "the first and the last of " + bass + "/" + figure + " in the key " + key, rows.toString());
     }
 
     // ---- count
@@ -570,6 +604,31 @@ public final class AnswerEdgesTest {
             chord(9, 49, 5) 10
             ifRealised() NOT_POSSIBLE
             """);
+        edges.edge(14, "the chord with the most voicings", """
+            text 40/6;40/6
+            read()
+            set(1, 24)
+            ifRealised() 0
+            voice(1, 67, 72, 79) 0
+            ifRealised() 0
+            realise() 0
+            of(0, 2) 67
+            of(0, 3) 72
+            of(0, 4) 79
+            """);
+        edges.edge(14, "fewer chords than before", """
+            text 48;53;55;48
+            read()
+            ifRealised() 12
+            takeOut(3) 3
+            ifRealised() 9
+            takeOut(2) 2
+            ifRealised() 3
+            takeOut(1) 1
+            ifRealised() 0
+            takeOut(0) 0
+            ifRealised() NOT_POSSIBLE
+            """);
         edges.edge(14, "what realise returns, before it and behind it", """
             text 48;53;55;48
             read()
@@ -683,6 +742,21 @@ public final class AnswerEdgesTest {
     }
 
     private static void nearestOfSeveral() {
+        // Behind another bass 53, 57, 62 makes no parallels with it.
+        edges.edge(15, "parallels with the bass of the chord ahead, not with another one", """
+            text 50;48=52,55,60;50;50
+            read()
+            ifVoiced(2, 53, 57, 62) 96
+            nearest(2, 0) 57
+            nearest(2, 3) 17
+            text 48;43=52,55,60;50;48
+            read()
+            ifVoiced(2, 53, 57, 62) 0
+            nearest(2, 0) 53
+            nearest(2, 1) 57
+            nearest(2, 2) 62
+            nearest(2, 3) 5
+            """);
         // From 55, 60, 70: 52, 60, 67 and 55, 60, 64 cost 6 each.
         edges.edge(15, "of two with the same cost the first one", """
             text 48=55,60,70;48

@@ -19,6 +19,7 @@ public final class FaultEdgesTest {
         unisons();
         leaps();
         leadingTonesThatDoNotRise();
+        leadingTonesInEachKey();
         leadingTonesThatNeedNot();
         edges.end(5, 5);
     }
@@ -251,6 +252,12 @@ public final class FaultEdgesTest {
         own("11 16 46", "58, 61, 64", "has 4");
         own("11 16 47", "58, 70, 63", "has 4");
         own("11 16 47", "57, 69, 63", "lacks 4");
+        for (int key = 0; key < 12; key++) {
+            String dominant = key + " 24 " + (36 + (key + 7) % 12);
+            int leading = 48 + (key + 11) % 12;
+            own(dominant, leading + ", " + (leading + 3) + ", " + (leading + 8), "lacks 4");
+            own(dominant, leading + ", " + (leading + 3) + ", " + (leading + 12), "has 4");
+        }
         // Also where the bass is not on the scale.
         own("0 16 49", "59, 62, 71", "has 4");
         own("0 16 49", "59, 62, 67", "lacks 4");
@@ -458,6 +465,20 @@ public final class FaultEdgesTest {
         behind("11 12", "42=58,61,66;47=59,63,66", "lacks 8");
         behind("11 12", "42=58,61,66;47=54,63,66", "has 8");
         behind("11 12", "42=59,61,66;47=54,63,66", "lacks 8");
+    }
+
+    /** In each key: to the tonic with the leading tone in the tenor, rising and falling, and without it. */
+    private static void leadingTonesInEachKey() {
+        for (int key = 0; key < 12; key++) {
+            int leading = 48 + (key + 11) % 12;
+            int dominant = 36 + (key + 7) % 12;
+            int tonic = 48 + key;
+            String with = told(new int[] {dominant, leading, leading + 3, leading + 8});
+            String without = told(new int[] {dominant, leading + 3, leading + 8, leading + 15});
+            behind(key + " 12", with + ";" + told(new int[] {tonic, leading + 1, leading + 5, leading + 8}), "lacks 8");
+            behind(key + " 12", with + ";" + told(new int[] {tonic, leading - 4, leading + 5, leading + 8}), "has 8");
+            behind(key + " 12", without + ";" + told(new int[] {tonic, leading + 5, leading + 8, leading + 13}), "lacks 8");
+        }
     }
 
     /** The tonic has to be a tone of this chord; a bass that had the leading tone need not rise. */
