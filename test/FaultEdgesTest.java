@@ -15,6 +15,7 @@ public final class FaultEdgesTest {
         doubledLeadingTones();
         noChordAhead();
         fifths();
+        eachInterval();
         fifthsOfEachPair();
         unisons();
         leaps();
@@ -360,6 +361,19 @@ public final class FaultEdgesTest {
         behind(all, "49=56,60,64;51=58,63,66", "has 5", "parallel(1, 5) 1");
     }
 
+    /** Bass and tenor move alike by a halftone, with each interval that is left over by 12; the others stay. */
+    private static void eachInterval() {
+        for (int interval = 0; interval < 12; interval++) {
+            for (int by : new int[] {-1, 1}) {
+                for (int bass : new int[] {36 + 1, 47, 48, 59 - 1}) {
+                    String first = told(new int[] {bass, bass + interval, 70, 74});
+                    String second = told(new int[] {bass + by, bass + interval + by, 70, 74});
+                    behind("0 12", first + ";" + second, interval == 7 ? "has 5" : "lacks 5", interval == 0 ? "has 6" : "lacks 6");
+                }
+            }
+        }
+    }
+
     /** In each pair of voices both move alike, from a fifth or an octave; the others stay. */
     private static void fifthsOfEachPair() {
         for (int lower = 0; lower < 3; lower++) {
@@ -472,12 +486,13 @@ public final class FaultEdgesTest {
         for (int key = 0; key < 12; key++) {
             int leading = 48 + (key + 11) % 12;
             int dominant = 36 + (key + 7) % 12;
-            int tonic = 48 + key;
             String with = told(new int[] {dominant, leading, leading + 3, leading + 8});
             String without = told(new int[] {dominant, leading + 3, leading + 8, leading + 15});
-            behind(key + " 12", with + ";" + told(new int[] {tonic, leading + 1, leading + 5, leading + 8}), "lacks 8");
-            behind(key + " 12", with + ";" + told(new int[] {tonic, leading - 4, leading + 5, leading + 8}), "has 8");
-            behind(key + " 12", without + ";" + told(new int[] {tonic, leading + 5, leading + 8, leading + 13}), "lacks 8");
+            for (int tonic = 36 + key; tonic < 60; tonic += 12) {
+                behind(key + " 12", with + ";" + told(new int[] {tonic, leading + 1, leading + 5, leading + 8}), "lacks 8");
+                behind(key + " 12", with + ";" + told(new int[] {tonic, leading - 4, leading + 5, leading + 8}), "has 8");
+                behind(key + " 12", without + ";" + told(new int[] {tonic, leading + 5, leading + 8, leading + 13}), "lacks 8");
+            }
         }
     }
 
