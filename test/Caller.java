@@ -9,6 +9,8 @@ final class Caller {
     static final int MOST_CALLS = 512;
 
     private static final Map<String, Method> METHODS = methods();
+    private static final Map<String, Integer> NAMED = Map.of("NO_SUCH", -1, "BAD_VALUE", -2, "BAD_TEXT", -3, "TOO_MANY", -4,
+        "NOT_POSSIBLE", -5, "NONE", -6);
 
     private final FiguredBasses x = new FiguredBasses();
     private int calls = 0;
@@ -52,12 +54,17 @@ final class Caller {
         Object[] arguments = new Object[told.length];
         for (int i = 0; i < told.length; i++) {
             if (method.getParameterTypes()[i] == long.class) {
-                arguments[i] = Long.parseLong(told[i]);
+                arguments[i] = Long.decode(told[i].replace("L", ""));
             } else {
                 arguments[i] = Integer.parseInt(told[i]);
             }
         }
         return arguments;
+    }
+
+    /** An answer that is told by its name or as a number. */
+    static int answer(String told) {
+        return NAMED.containsKey(told) ? NAMED.get(told) : Integer.parseInt(told);
     }
 
     /** The number by which put() takes these characters. */

@@ -1,6 +1,5 @@
 import java.util.ArrayList;
 import java.util.List;
-import java.util.Map;
 import java.util.Set;
 
 /**
@@ -12,8 +11,6 @@ import java.util.Set;
  * without: what they tell, their pads, what can be undone, and what the slots keep.
  */
 final class Edges {
-    private static final Map<String, Integer> NAMED = Map.of("NO_SUCH", -1, "BAD_VALUE", -2, "BAD_TEXT", -3, "TOO_MANY", -4,
-        "NOT_POSSIBLE", -5, "NONE", -6);
     private static final Set<String> ASKING = Set.of("of", "voicing", "count", "parallel", "ifRealised", "nearest", "ifVoiced",
         "keys", "fault");
     /** Each of these runs of calls brings something to light that an object keeps. */
@@ -74,7 +71,7 @@ final class Edges {
         String call = row.substring(0, end);
         int answer = x.call(call);
         compare(title + call, answer, row.substring(end).strip());
-        boolean refused = answer < 0 && answer > NAMED.get("NONE");
+        boolean refused = answer < 0 && answer > Caller.answer("NONE");
         if (refused || ASKING.contains(Caller.nameOf(call))) {
             changesNothing(title + call, call, made);
         } else {
@@ -90,7 +87,7 @@ final class Edges {
             check.holds(call + " answered " + answer + ", no set", answer >= 0);
             check.due(call + ", fault " + fault, answer >> fault & 1, due.startsWith("has ") ? 1 : 0);
         } else {
-            check.due(call, answer, NAMED.containsKey(due) ? NAMED.get(due) : Integer.parseInt(due));
+            check.due(call, answer, Caller.answer(due));
         }
     }
 

@@ -766,7 +766,7 @@ public final class FiguredBasses {
             size = 0;
             int tones = piece.tonesOf(chord);
             for (int tenor = LOWEST_OF_VOICE[TENOR]; tenor <= HIGHEST_OF_VOICE[TENOR]; tenor++) {
-                // A strange tone is a fault anyway: to leave such tenors and altos out at once is only faster.
+                // A strange tone is a fault anyway: to leave such notes out at once is only faster.
                 if (!isOf(tones, tenor)) {
                     continue;
                 }
@@ -776,7 +776,7 @@ public final class FiguredBasses {
                     }
                     for (int soprano = LOWEST_OF_VOICE[SOPRANO]; soprano <= HIGHEST_OF_VOICE[SOPRANO]; soprano++) {
                         int voices = packed(tenor, alto, soprano);
-                        if (Rules.ownFaults(piece, piece.allVoices(chord, voices), tones) == 0) {
+                        if (isOf(tones, soprano) && Rules.ownFaults(piece, piece.allVoices(chord, voices), tones) == 0) {
                             add(voices);
                         }
                     }
